@@ -1,0 +1,81 @@
+/** Counts the answers of a test that are not the ones that are due, and ends it by them. */
+final class Check {
+  private final String test;
+  private int checked = 0;
+  private int wrong = 0;
+
+  Check(String test) {
+    this.test = test;
+  }
+
+  void due(String what, long got, long want) {
+    checked++;
+    if (got != want) {
+      tellWrong(what, Long.toString(got), Long.toString(want));
+    }
+  }
+
+  void due(String what, boolean got, boolean want) {
+    due(what, got ? 1 : 0, want ? 1 : 0);
+  }
+
+  void dueDouble(String what, double got, double want) {
+    checked++;
+    if (got != want) {
+      tellWrong(what, Double.toString(got), Double.toString(want));
+    }
+  }
+
+  /** The call throws just that, and changes nothing. */
+  void refused(
+      String what, TailraceBroker broker, Class<? extends RuntimeException> want, Runnable call) {
+    checked++;
+    long before = broker.digest();
+    String got = "nothing";
+    try {
+      call.run();
+    } catch (RuntimeException thrown) {
+      got = thrown.getClass().getName();
+    }
+    if (!got.equals(want.getName())) {
+      tellWrong(what + " throws", got, want.getName());
+    }
+    due(what + " leaves the digest", broker.digest(), before);
+  }
+
+  void noIndex(String what, TailraceBroker broker, Runnable call) {
+    refused(what, broker, IndexOutOfBoundsException.class, call);
+  }
+
+  void noArgument(String what, TailraceBroker broker, Runnable call) {
+    refused(what, broker, IllegalArgumentException.class, call);
+  }
+
+  void noState(String what, TailraceBroker broker, Runnable call) {
+    refused(what, broker, IllegalStateException.class, call);
+  }
+
+  /** The states of the OFFSETS from 0 on, a digit each. */
+  void dueStates(String what, TailraceBroker broker, int group, int partition, String want) {
+    checked++;
+    StringBuilder got = new StringBuilder();
+    for (int offset = 0; offset < want.length(); offset++) {
+      got.append(broker.state(group, partition, offset));
+    }
+    if (!want.contentEquals(got)) {
+      tellWrong(what, got.toString(), want);
+    }
+  }
+
+  void end() {
+    System.out.println(test + ": " + checked + " checked, " + wrong + " wrong");
+    if (wrong > 0) {
+      System.exit(1);
+    }
+  }
+
+  private void tellWrong(String what, String got, String want) {
+    wrong++;
+    System.out.println(test + ": " + what + ": " + got + ", due is " + want);
+  }
+}
