@@ -35,12 +35,20 @@ final class Check {
     try {
       call.run();
     } catch (RuntimeException thrown) {
-      got = thrown.getClass().getName();
+      got = told(thrown);
     }
     if (!got.equals(want.getName())) {
       tellWrong(what + " throws", got, want.getName());
     }
     due(what + " leaves the digest", broker.digest(), before);
+  }
+
+  /** The sort of an exception; also its place, if it is not the class's own "throw". */
+  static String told(Throwable thrown) {
+    StackTraceElement[] calls = thrown.getStackTrace();
+    String sort = thrown.getClass().getName();
+    boolean isOwn = calls.length > 0 && calls[0].getClassName().startsWith("TailraceBroker");
+    return isOwn ? sort : sort + " from outside";
   }
 
   void noIndex(String what, TailraceBroker broker, Runnable call) {

@@ -23,6 +23,7 @@ public final class GroupsTest {
     promise29Lag();
     promise30Aside();
     promise31MeanTries();
+    fullPartition();
     CHECK.end();
   }
 
@@ -381,5 +382,29 @@ public final class GroupsTest {
     CHECK.dueDouble("dropped or not", broker.meanTries(0), 4.0 / 3);
     CHECK.noIndex("group 1", broker, () -> broker.meanTries(1));
     CHECK.noIndex("group -1", broker, () -> broker.meanTries(-1));
+  }
+
+  /** All 80 MESSAGES in one PARTITION: the last OFFSET is as good as each other one. */
+  private static void fullPartition() {
+    TailraceBroker broker = Brokers.oneReader(80);
+    CHECK.due("the mark before", broker.seek(0, 0, 79), 0);
+    CHECK.due("the last one", broker.take(0, 0), 79);
+    CHECK.due("a digest", broker.digest() == broker.digest(), true);
+    CHECK.due("its time", broker.nextTime(0), 10);
+    CHECK.due("nacked", broker.setClock(10), 1);
+    CHECK.due("again", broker.state(0, 0, 79), 2);
+    broker.setClock(12);
+    broker.take(0, 0);
+    broker.join(0, 0, false);
+    CHECK.due("as never given", broker.tries(0, 0, 79), 0);
+    broker.join(0, 0, true);
+    broker.take(0, 0);
+    CHECK.due("the end", broker.ack(0, 0, 79), 80);
+    CHECK.dueDouble("its tries", broker.meanTries(0), 1.0);
+    CHECK.due("none is left", broker.take(0, 0), -1);
+    CHECK.noState("none is there", broker, () -> broker.ack(0, 0, 80));
+    CHECK.due("to the end", broker.seek(0, 0, 80), 80);
+    CHECK.due("from the first", broker.seek(0, 0, 0), 80);
+    CHECK.due("all", broker.lag(0, 0), 80);
   }
 }
