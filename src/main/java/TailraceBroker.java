@@ -777,7 +777,7 @@ public final class TailraceBroker {
       states[offset] = READ;
     }
 
-    /** Its TIME, or NOTHING if it is LAID ASIDE. */
+    /** NACKS: its TIME, or NOTHING if it is LAID ASIDE. */
     int giveBack(int offset, int clock, int delay) {
       if (timesGiven[offset] >= MOST_TRIES) {
         states[offset] = LAID_ASIDE;

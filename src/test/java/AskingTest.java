@@ -217,11 +217,7 @@ public final class AskingTest {
   }
 
   private static void promise36LeastOfAll() {
-    TailraceBroker broker = new TailraceBroker();
-    broker.topic(2, false);
-    for (int number = 0; number < 4; number++) {
-      broker.send(0, 0, number, number, 0);
-    }
+    TailraceBroker broker = Brokers.keyedRows(2, false, 4);
     broker.group(0);
     broker.group(0);
     broker.join(0, 0, true);

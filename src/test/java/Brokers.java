@@ -19,6 +19,16 @@ final class Brokers {
     return broker;
   }
 
+  /** One TOPIC, with that many MESSAGES of PRODUCER 0; the KEY of each is its NUMBER. */
+  static TailraceBroker keyedRows(int partitions, boolean isCompact, int messages) {
+    TailraceBroker broker = new TailraceBroker();
+    broker.topic(partitions, isCompact);
+    for (int number = 0; number < messages; number++) {
+      broker.send(0, 0, number, number, 0);
+    }
+    return broker;
+  }
+
   /** The PRODUCER's NUMBERS go on from the given one; the VALUE is the NUMBER. */
   static void sendPlain(TailraceBroker broker, int producer, int from, int messages) {
     for (int number = from; number < from + messages; number++) {

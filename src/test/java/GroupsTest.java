@@ -147,11 +147,7 @@ public final class GroupsTest {
   }
 
   private static void promise18KeepsWhatStays() {
-    TailraceBroker broker = new TailraceBroker();
-    broker.topic(3, false);
-    for (int number = 0; number < 6; number++) {
-      broker.send(0, 0, number, number, 0);
-    }
+    TailraceBroker broker = Brokers.keyedRows(3, false, 6);
     broker.group(0);
     broker.join(0, 1, true);
     for (int times = 0; times < 6; times++) {
@@ -291,11 +287,7 @@ public final class GroupsTest {
   }
 
   private static void promise29Lag() {
-    TailraceBroker broker = new TailraceBroker();
-    broker.topic(1, true);
-    for (int number = 0; number < 6; number++) {
-      broker.send(0, 0, number, number, 0);
-    }
+    TailraceBroker broker = Brokers.keyedRows(1, true, 6);
     broker.group(0);
     broker.join(0, 0, true);
     CHECK.due("all", broker.lag(0, 0), 6);
@@ -330,11 +322,7 @@ public final class GroupsTest {
   }
 
   private static void promise30Aside() {
-    TailraceBroker broker = new TailraceBroker();
-    broker.topic(2, false);
-    for (int number = 0; number < 4; number++) {
-      broker.send(0, 0, number, number, 0);
-    }
+    TailraceBroker broker = Brokers.keyedRows(2, false, 4);
     broker.group(0);
     broker.group(0);
     broker.join(0, 0, true);
@@ -354,11 +342,7 @@ public final class GroupsTest {
   }
 
   private static void promise31MeanTries() {
-    TailraceBroker broker = new TailraceBroker();
-    broker.topic(2, false);
-    for (int number = 0; number < 4; number++) {
-      broker.send(0, 0, number, number, 0);
-    }
+    TailraceBroker broker = Brokers.keyedRows(2, false, 4);
     broker.group(0);
     broker.join(0, 0, true);
     CHECK.dueDouble("without any", broker.meanTries(0), 0.0);

@@ -144,11 +144,7 @@ public final class KeepingTest {
   }
 
   private static void promise8NackOrder() {
-    TailraceBroker broker = new TailraceBroker();
-    broker.topic(2, false);
-    for (int number = 0; number < 4; number++) {
-      broker.send(0, 0, number, number % 2, 0);
-    }
+    TailraceBroker broker = Brokers.keyedRows(2, false, 4);
     broker.group(0);
     broker.group(0);
     broker.join(1, 5, true);

@@ -43,11 +43,7 @@ public final class ReadingTest {
   }
 
   private static void promise19FirstPartition() {
-    TailraceBroker broker = new TailraceBroker();
-    broker.topic(4, false);
-    for (int number = 0; number < 6; number++) {
-      broker.send(0, 0, number, number % 4, 0);
-    }
+    TailraceBroker broker = Brokers.keyedRows(4, false, 6);
     broker.group(0);
     broker.join(0, 1, true);
     broker.join(0, 4, true);
