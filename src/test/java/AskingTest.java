@@ -265,18 +265,18 @@ public final class AskingTest {
     broker.group(1);
     broker.join(0, 1, true);
     broker.join(0, 3, true);
-    CHECK.due("with messages", broker.digest(), told(broker));
+    CHECK.due("with messages", broker.digest(), Digest.told(broker, 3, 1));
     for (int times = 0; times < 5; times++) {
       broker.take(0, 1);
     }
     broker.nack(0, 0, 1);
     broker.ack(0, 0, 0);
-    CHECK.due("with given ones", broker.digest(), told(broker));
+    CHECK.due("with given ones", broker.digest(), Digest.told(broker, 3, 1));
     broker.clean(0);
     broker.setKeep(0, 4);
-    CHECK.due("with dropped ones", broker.digest(), told(broker));
+    CHECK.due("with dropped ones", broker.digest(), Digest.told(broker, 3, 1));
     broker.setClock(30);
-    CHECK.due("later", broker.digest(), told(broker));
+    CHECK.due("later", broker.digest(), Digest.told(broker, 3, 1));
   }
 
   private static void promise38ChangesNothing() {
@@ -286,54 +286,5 @@ public final class AskingTest {
     CHECK.due("the same anew", broker.digest(), before);
     broker.take(0, 0);
     CHECK.due("another then", broker.digest() != before, true);
-  }
-
-  /** The checksum by the words of promise 38, from the answers of the other calls. */
-  private static long told(TailraceBroker broker) {
-    Sum sum = new Sum();
-    sum.add(broker.clock(), broker.topics(), broker.groups(), broker.ledger());
-    int[] partitions = {3, 1};
-    for (int topic = 0; topic < broker.topics(); topic++) {
-      sum.add(broker.kept(topic), broker.wouldDrop(topic));
-      for (int p = 0; p < partitions[topic]; p++) {
-        sum.add(broker.start(topic, p), broker.endOf(topic, p), broker.stable(topic, p));
-        for (int offset = 0; offset < broker.endOf(topic, p); offset++) {
-          for (int what = 0; what <= 4; what++) {
-            sum.add(broker.message(topic, p, offset, what));
-          }
-        }
-      }
-    }
-    for (int group = 0; group < broker.groups(); group++) {
-      sum.add(broker.aside(group), broker.nextTime(group));
-      for (int p = 0; p < partitions[group]; p++) {
-        sum.add(broker.reader(group, p), broker.mark(group, p), broker.cursor(group, p));
-        sum.add(broker.lag(group, p));
-        for (int offset = 0; offset < broker.endOf(group, p); offset++) {
-          sum.add(broker.state(group, p, offset), broker.tries(group, p, offset));
-        }
-      }
-    }
-    for (int group = 0; group < broker.groups(); group++) {
-      for (int reader = 0; reader < 6; reader++) {
-        sum.add(broker.wouldTake(group, reader));
-      }
-    }
-    for (int row = 0; row < broker.ledger(); row++) {
-      for (int what = 0; what <= 4; what++) {
-        sum.add(broker.row(row, what));
-      }
-    }
-    return sum.d;
-  }
-
-  private static final class Sum {
-    private long d = 2683;
-
-    void add(long... values) {
-      for (long v : values) {
-        d = d * 31 + v;
-      }
-    }
   }
 }

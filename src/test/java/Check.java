@@ -1,3 +1,5 @@
+import java.util.function.IntSupplier;
+
 /** Counts the answers of a test that are not the ones that are due, and ends it by them. */
 final class Check {
   private final String test;
@@ -19,6 +21,13 @@ final class Check {
     due(what, got ? 1 : 0, want ? 1 : 0);
   }
 
+  void dueText(String what, String got, String want) {
+    checked++;
+    if (!got.equals(want)) {
+      tellWrong(what, got, want);
+    }
+  }
+
   void dueDouble(String what, double got, double want) {
     checked++;
     if (got != want) {
@@ -26,11 +35,12 @@ final class Check {
     }
   }
 
-  /** The call throws just that, and changes nothing. */
+  /** The call throws just that, and changes nothing: neither what is told nor what is not. */
   void refused(
       String what, TailraceBroker broker, Class<? extends RuntimeException> want, Runnable call) {
     checked++;
     long before = broker.digest();
+    String held = Snapshot.of(broker);
     String got = "nothing";
     try {
       call.run();
@@ -40,7 +50,26 @@ final class Check {
     if (!got.equals(want.getName())) {
       tellWrong(what + " throws", got, want.getName());
     }
+    dueHeld(what, broker, held);
     due(what + " leaves the digest", broker.digest(), before);
+  }
+
+  /** What the object holds is what it held; told from where it is not. */
+  void dueHeld(String what, TailraceBroker broker, String want) {
+    checked++;
+    String got = Snapshot.of(broker);
+    if (!got.equals(want)) {
+      int from = Snapshot.firstDifference(got, want);
+      tellWrong(what + " changes something", Snapshot.excerpt(got, from),
+          Snapshot.excerpt(want, from));
+    }
+  }
+
+  /** The call answers so, and changes nothing. */
+  void dueUnchanged(String what, TailraceBroker broker, IntSupplier call, int want) {
+    String held = Snapshot.of(broker);
+    due(what, call.getAsInt(), want);
+    dueHeld(what, broker, held);
   }
 
   /** The sort of an exception; also its place, if it is not the class's own "throw". */
