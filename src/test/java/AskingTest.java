@@ -248,8 +248,36 @@ public final class AskingTest {
   }
 
   private static void promise38Digest() {
+    CHECK.due("a new one", new TailraceBroker().digest(), 2477806843L);
+    String[] with = {"messages", "given ones", "dropped ones", "a later clock"};
+    for (int steps = 0; steps < with.length; steps++) {
+      int gone = steps;
+      CHECK.due("with " + with[steps], afterSteps(gone).digest(),
+          Digest.told(() -> afterSteps(gone), 3, 1));
+    }
+  }
+
+  private static TailraceBroker afterSteps(int steps) {
+    TailraceBroker broker = withMessages();
+    if (steps >= 1) {
+      for (int times = 0; times < 5; times++) {
+        broker.take(0, 1);
+      }
+      broker.nack(0, 0, 1);
+      broker.ack(0, 0, 0);
+    }
+    if (steps >= 2) {
+      broker.clean(0);
+      broker.setKeep(0, 4);
+    }
+    if (steps >= 3) {
+      broker.setClock(30);
+    }
+    return broker;
+  }
+
+  private static TailraceBroker withMessages() {
     TailraceBroker broker = new TailraceBroker();
-    CHECK.due("a new one", broker.digest(), 2477806843L);
     broker.topic(3, true);
     broker.topic(1, false);
     for (int number = 0; number < 9; number++) {
@@ -265,18 +293,7 @@ public final class AskingTest {
     broker.group(1);
     broker.join(0, 1, true);
     broker.join(0, 3, true);
-    CHECK.due("with messages", broker.digest(), Digest.told(broker, 3, 1));
-    for (int times = 0; times < 5; times++) {
-      broker.take(0, 1);
-    }
-    broker.nack(0, 0, 1);
-    broker.ack(0, 0, 0);
-    CHECK.due("with given ones", broker.digest(), Digest.told(broker, 3, 1));
-    broker.clean(0);
-    broker.setKeep(0, 4);
-    CHECK.due("with dropped ones", broker.digest(), Digest.told(broker, 3, 1));
-    broker.setClock(30);
-    CHECK.due("later", broker.digest(), Digest.told(broker, 3, 1));
+    return broker;
   }
 
   private static void promise38ChangesNothing() {

@@ -85,7 +85,8 @@ public final class GroupEdgesTest {
     duePlace("the first one, too", broker, 0, 3, 3);
   }
 
-  private static void duePlace(String what, TailraceBroker broker, int group, int mark, int cursor) {
+  private static void duePlace(
+      String what, TailraceBroker broker, int group, int mark, int cursor) {
     CHECK.due(what + ", mark", broker.mark(group, 0), mark);
     CHECK.due(what + ", cursor", broker.cursor(group, 0), cursor);
   }

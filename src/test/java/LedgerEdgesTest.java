@@ -184,11 +184,9 @@ public final class LedgerEdgesTest {
   }
 
   private static void digestOfAll() {
-    TailraceBroker broker = Brokers.full();
-    CHECK.due("with all there may be", broker.digest(), Digest.told(broker, 4, 4, 4, 4));
-    CHECK.due("the same anew", broker.digest(), Digest.told(broker, 4, 4, 4, 4));
-    TailraceBroker some = Brokers.some();
-    CHECK.due("with some of it", some.digest(), Digest.told(some, 3, 1));
+    CHECK.due("with all there may be", Brokers.full().digest(),
+        Digest.told(Brokers::full, 4, 4, 4, 4));
+    CHECK.due("with some of it", Brokers.some().digest(), Digest.told(Brokers::some, 3, 1));
   }
 
   /** "which wraps around as a 64-bit integer" */

@@ -85,6 +85,12 @@ public final class ModelTest {
     broker.join(0, 2, true);
     model.join(0, 2, true);
     for (int call = 3; call < CALLS; call++) {
+      if (call % DIGEST_EVERY == 0) {
+        if (broker.digest() != model.digest()) {
+          return tellWrong("another digest");
+        }
+        continue;
+      }
       Method method = face.get(random.nextInt(face.size()));
       Object[] given = arguments(method);
       String due = answer(Model.class.getMethod(method.getName(), method.getParameterTypes()),
@@ -95,9 +101,6 @@ public final class ModelTest {
       remember(method.getName(), given, due);
       if (!got.equals(due)) {
         return tellWrong(due);
-      }
-      if (call % DIGEST_EVERY == 0 && broker.digest() != model.digest()) {
-        return tellWrong("another digest");
       }
     }
     return true;

@@ -9,9 +9,9 @@ import java.util.function.Supplier;
 /**
  * Each call on an object with nothing in it, with some of all, and with all there may be. Of each
  * argument it tells the edges: the smallest and the greatest value that is allowed, and the first
- * ones that are not; and it tries them together, two wrong ones at most. Of two exceptions that apply
- * the one that the document names first is due (it always names an index before an argument before
- * a state), and what throws changes nothing; nor does a call that only asks.
+ * ones that are not; and it tries them together, two wrong ones at most. Of two exceptions that
+ * apply the one that the document names first is due (it always names an index before an argument
+ * before a state), and what throws changes nothing; nor does a call that only asks.
  */
 public final class RefusalTest {
   private static final Check CHECK = new Check("RefusalTest");
@@ -119,7 +119,8 @@ public final class RefusalTest {
     on.callEach(List.of("kept", "wouldDrop", "group"), nothing());
     on.call("join", nothing(), right(0, 5).noIndex(-1, 6), either());
     on.callEach(List.of("take", "wouldTake"), nothing(), right(0, 5).noIndex(-1, 6));
-    on.callEach(List.of("ack", "nack", "seek", "state", "tries"), nothing(), right(0), right(0, -1));
+    on.callEach(List.of("ack", "nack", "seek", "state", "tries"), nothing(), right(0),
+        right(0, -1));
     on.callEach(List.of("reader", "mark", "cursor", "lag"), nothing(), right(0));
     on.callEach(List.of("aside", "meanTries", "nextTime"), nothing());
     on.call("row", nothing(), right(0, 4).noArgument(-1, 5));

@@ -174,7 +174,7 @@ public final class TopicEdgesTest {
     CHECK.noState("the 81st", broker, () -> broker.send(0, 0, 80, -1, 0));
   }
 
-  /** "The END of a PARTITION is the OFFSET that the next one will have; its START is 0 at first." */
+  /** "The END ... is the OFFSET that the next one will have; its START is 0 at first." */
   private static void startIsZeroAtFirstAndReachesTheEnd() {
     TailraceBroker broker = new TailraceBroker();
     broker.topic(2, false);
